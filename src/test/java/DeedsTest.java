@@ -16,6 +16,7 @@ public final class DeedsTest {
         perform();
         year();
         yearThatDidNothing();
+        yearOfOne();
         Checks.end();
     }
 
@@ -91,6 +92,13 @@ public final class DeedsTest {
         Checks.due("behind the second", x.count(2), 1);
         x.swap(0, 1);
         Checks.due("one again", x.undo(1), 0);
+        for (int i = 0; i < 25; i++) {
+            x.clue(i % 10);
+        }
+        for (int i = 23; i >= 14; i--) {
+            Checks.due("one by one", x.undo(1), i - 14);
+            Checks.due("one by one, clue", x.count(2), i % 10);
+        }
     }
 
     private static void judge() {
@@ -111,7 +119,7 @@ public final class DeedsTest {
         Checks.due("why", x.judge(1, 1), 1);
         Checks.due("as behind the first", x.judge(1, 2), 23);
         Checks.due("as behind the first", x.judge(1, 3), 15);
-        long[] never = {-1, 1, 9, 20, 99, 100, 111, 140, 199, 200, 1L << 32, -256, Long.MIN_VALUE};
+        long[] never = {-1, 1, 9, 20, 99, 100, 111, 140, 199, 200, 1L << 32, (1L << 32) + 101, 65637, -155, -256, Long.MIN_VALUE};
         for (long deed : never) {
             Checks.fill(x, 2, 3, deed);
             Checks.due("deed " + deed, x.judge(2, 0), 0);
@@ -137,6 +145,9 @@ public final class DeedsTest {
         row(x, 1, 2, 3, 0);
         Checks.due("nights", x.count(3), 0);
         Checks.due("clue", x.count(2), 5);
+        Checks.fill(x, 0, 1, 101, 7);
+        Checks.due("one", x.perform(0), 1);
+        Checks.due("one to undo", x.undo(1), 0);
         Checks.fill(x, 0, 1, 7);
         Checks.due("none", x.perform(0), 0);
         Checks.due("nothing to undo", x.count(5), 0);
@@ -189,6 +200,24 @@ public final class DeedsTest {
             Checks.due("undone", y.undo(1), 0);
             Checks.due("row", y.lies(0), 9);
         }
+    }
+
+    /** Only one deed of these could be: a night behind a swap that can't be. */
+    private static void yearOfOne() {
+        DrawerNames x = new DrawerNames();
+        for (int s = 0; s < 1000; s++) {
+            seed = s;
+            boolean swapFirst = draw() % 4 == 3;
+            draw();
+            draw();
+            if (swapFirst && draw() % 4 < 2) {
+                Checks.due("the night could be", x.year(s, 2), 1);
+                Checks.due("one call", x.count(5), 1);
+                Checks.due("one night", x.count(3), 1);
+                return;
+            }
+        }
+        Checks.holds("a seed", false);
     }
 
     /** With one drawer no swap can be. */

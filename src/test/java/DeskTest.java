@@ -17,6 +17,8 @@ public final class DeskTest {
         drawer();
         plainVisits();
         laws();
+        sums();
+        truths();
         bounds();
         opened();
         Checks.end();
@@ -118,6 +120,33 @@ public final class DeskTest {
         faulty(TWO + "clue 1\u00e9;", 1, 29);
         faulty(TWO + "clue 1\u0000;", 1, 29);
         faulty(TWO + "next : 1 / 2;", 1, 32);
+        faulty(TWO + "zz 1;", 2, 23);
+        faulty(TWO + "az 1;", 2, 23);
+        faulty(TWO + "`", 1, 23);
+        faulty(TWO + "{", 1, 23);
+        faulty(TWO + "clue /", 1, 28);
+        faulty(TWO + "nex : 1;", 2, 23);
+        faulty(TWO + "nexts : 1;", 2, 23);
+        cutTokens();
+    }
+
+    /** What lies on the tape behind the n bytes doesn't count, even if a token would go on there. */
+    private static void cutTokens() {
+        DrawerNames x = new DrawerNames();
+        Checks.feed(x, "desk drawers 2 opens 12;");
+        Checks.due("cut in a number", x.desk(22), -32);
+        Checks.due("cut in a number, place", x.fault(1), 22);
+        Checks.feed(x, "desk drawers 2 opens 1;clue 12345");
+        Checks.due("cut in a number", x.desk(29), -32);
+        Checks.due("cut in a number, place", x.fault(1), 29);
+        Checks.feed(x, "desk drawers 2 opens 1;name 0 0;");
+        Checks.due("cut in a word", x.desk(26), -32);
+        Checks.due("cut in a word, place", x.fault(1), 23);
+        Checks.feed(x, "desk drawers");
+        Checks.due("cut at a word", x.desk(4), -32);
+        Checks.due("cut at a word, place", x.fault(1), 4);
+        Checks.feed(x, "desk drawers 2 opens 1;?");
+        Checks.due("cut ahead of what is no token", x.desk(23), 1);
     }
 
     private static void faultKinds() {
@@ -126,6 +155,16 @@ public final class DeskTest {
         faulty("desk drawers 6 opens 10;", 3, 21);
         right("desk drawers 6 opens 9;", 1);
         faulty(TWO + ";", 2, 23);
+        right(TWO + "clue 0;clue 9;", 3);
+        for (String word : new String[] {"name", "night"}) {
+            int first = 24 + word.length();
+            faulty(TWO + word + " 2 0;", 3, first);
+            faulty(TWO + word + " 0 2;", 3, first + 2);
+            faulty(TWO + word + " 999 ?", 3, first);
+            faulty(TWO + word + " 0 0 0;", 2, first + 4);
+            faulty(TWO + word + " 0 : 0;", 2, first + 2);
+            right(TWO + word + " 1 0;" + word + " 0 1;", 3);
+        }
         faulty(TWO + "clue 10;", 3, 28);
         faulty(TWO + "clue;", 2, 27);
         faulty(TWO + "clue 1 2;", 2, 30);
@@ -217,6 +256,47 @@ public final class DeskTest {
         x.clue(1);
         Checks.due("by clue 1", x.opened(3, 0), 0);
         Checks.due("by clue 1", x.opened(3, 3), 3);
+    }
+
+    /** What a sum tells is seen by the drawer that is opened first, of six; 1 opens them by clue 7. */
+    private static void sums() {
+        tells("1-2-3", -4);
+        tells("5-2*2+1", 2);
+        tells("(5-2)*2+1", 7);
+        tells("2*3*4", 24);
+        tells("me", 1);
+        tells("found*2", 2);
+        tells("last*3", 3);
+        tells("tries", 0);
+        tells("clue", 7);
+        tells("if 1=1 then 2 else 3 end", 2);
+        tells("if 1=2 then 2 else 3 end", 3);
+        tells("if 1=1 then if 1=2 then 2 else 3 end else 4 end*2", 6);
+        tells("10+if 1=1 then 2 else 3 end-1", 11);
+        tells("0-(0-5)", 5);
+        tells("1+2*3-4*if 2>1 then 1+1 else 5*5 end+6", 5);
+        tells("(1+(2-(3-(4-(5-(6))))))", -1);
+    }
+
+    private static void tells(String sum, int value) {
+        DrawerNames x = Checks.at("desk drawers 6 opens 2;clue 7;next:" + sum + ";");
+        Checks.due(sum, x.opened(1, 0), Math.floorMod(value, 6));
+    }
+
+    private static void truths() {
+        String[] hold = {"1=1", "1<2", "2>1", "not 1=2", "not 1<1", "not 1>1", "not 2<1", "not 1>2", "1=1 and 2=2",
+            "1=2 or 2=2", "1=1 or 1=2", "1=1 or 1=2 and 1=2", "not 1=2 and 1=1", "not [1=1 and 1=2]",
+            "not not 1=1", "[1=2 or 1=1] and [1=1 or 1=2]", "0-1<0", "not 1=2 or 1=1", "1+1=2*1", "(1)=1",
+            "1=1 and 1=1 and 1=1", "1=2 or 1=2 or 1=1", "not [not 1=1 or not 2=2]"};
+        String[] fail = {"1=2", "1<1", "2<1", "1>1", "1>2", "not 1=1", "not 1<2", "not 2>1", "1=1 and 1=2",
+            "1=2 and 1=1", "1=2 or 1=2", "[1=1 or 1=1] and 1=2", "not 1=1 or 1=2", "not not 1=2",
+            "not [1=1 or 1=2]", "1=2 and 1=2 or 1=2", "1=1 and 1=1 and 1=2"};
+        for (String truth : hold) {
+            Checks.due(truth, Checks.at("desk drawers 2 opens 1;stops:" + truth + ";").visit(0, 1), 0);
+        }
+        for (String truth : fail) {
+            Checks.due(truth, Checks.at("desk drawers 2 opens 1;stops:" + truth + ";").visit(0, 1), 1);
+        }
     }
 
     private static void bounds() {

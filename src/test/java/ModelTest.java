@@ -90,8 +90,17 @@ public final class ModelTest {
                 return -1;
             }
         }
-        boolean same = ask(call("desk"), random.nextInt(40) == 0 ? random.nextInt(1000) - 20 : text.length());
+        boolean same = ask(call("desk"), toRead(text.length()));
         return same && ask(call("fault"), 0) && ask(call("fault"), 1) ? made : -1;
+    }
+
+    /** Now and then a part of the text, or more than there is. */
+    private int toRead(int length) {
+        int kind = random.nextInt(40);
+        if (kind == 0) {
+            return random.nextInt(1000) - 20;
+        }
+        return kind < 3 ? random.nextInt(length + 1) : length;
     }
 
     /** Deeds, names found, or sets of people. */

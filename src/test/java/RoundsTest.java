@@ -17,16 +17,24 @@ public final class RoundsTest {
 
     private static void lies() {
         DrawerNames x = Checks.at(SIX);
-        int[] due = {1 * 120 + 1 * 24 + 0 + 1 * 2, 3, 3, 1, 6, 3};
-        for (int what = 0; what < due.length; what++) {
-            Checks.due("lies " + what, x.lies(what), due[what]);
-        }
+        allLies(SIX, 120 + 24 + 2, 3, 3, 1, 6, 3);
+        allLies("desk drawers 1 opens 1;", 0, 1, 1, 1, 1, 0);
+        manyLies("name 1 2;name 2 1;", 24, 5, 2, 4, 2, 1);
+        manyLies("name 0 1;name 1 2;name 2 3;name 3 4;name 4 5;name 5 0;", 153, 1, 6, 0, 6, 5);
+        manyLies("name 1 2;name 2 3;name 3 4;name 4 1;", 32, 3, 4, 2, 4, 3);
         Checks.due("no such", x.lies(6), -2);
         Checks.due("no such", x.lies(-1), -2);
-        Checks.tell(x, "desk drawers 6 opens 1;name 0 5;name 1 4;name 2 3;name 3 2;name 4 1;name 5 0;");
-        int[] last = {719, 3, 2, 0, 2, 15};
-        for (int what = 0; what < last.length; what++) {
-            Checks.due("last row, lies " + what, x.lies(what), last[what]);
+        manyLies("name 0 5;name 1 4;name 2 3;name 3 2;name 4 1;name 5 0;", 719, 3, 2, 0, 2, 15);
+    }
+
+    private static void manyLies(String names, int... due) {
+        allLies("desk drawers 6 opens 1;" + names, due);
+    }
+
+    private static void allLies(String text, int... due) {
+        DrawerNames x = Checks.at(text);
+        for (int what = 0; what < due.length; what++) {
+            Checks.due(text + " lies " + what, x.lies(what), due[what]);
         }
     }
 
