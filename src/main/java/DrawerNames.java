@@ -458,10 +458,11 @@ public final class DrawerNames {
     }
 
     private long weightOf(int aim) {
+        int goal = visits.goalOf(aim);
         long sum = 0;
         for (int row = 0; row < all.count; row++) {
             long weight = spread.weightAt(row);
-            if (weight != 0 && visits.isAs(aim, row, now.clue)) {
+            if (weight != 0 && visits.maskOf(row, now.clue) == goal) {
                 sum += weight;
             }
         }
@@ -518,8 +519,9 @@ public final class DrawerNames {
             return NO_SUCH;
         }
         int period = all.orderOf(table.nightRow);
+        int goal = visits.goalOf(aim);
         for (int n = 0; n < period; n++) {
-            if (visits.isAs(aim, rowBehind(n), now.clue)) {
+            if (visits.maskOf(rowBehind(n), now.clue) == goal) {
                 return n;
             }
         }
@@ -538,9 +540,10 @@ public final class DrawerNames {
     }
 
     private int hitsWithin(int aim, int n) {
+        int goal = visits.goalOf(aim);
         int hits = 0;
         for (int i = 1; i <= n; i++) {
-            if (visits.isAs(aim, rowBehind(i), now.clue)) {
+            if (visits.maskOf(rowBehind(i), now.clue) == goal) {
                 hits++;
             }
         }
@@ -684,7 +687,7 @@ public final class DrawerNames {
         if (!isAim(aim)) {
             return NO_SUCH;
         }
-        if (visits.isAs(aim, now.row, now.clue)) {
+        if (visits.maskOf(now.row, now.clue) == visits.goalOf(aim)) {
             return 0;
         }
         return pairTo(aim) == NONE ? NONE : 1;
@@ -694,7 +697,7 @@ public final class DrawerNames {
         if (!isAim(aim)) {
             return NO_SUCH;
         }
-        if (visits.isAs(aim, now.row, now.clue)) {
+        if (visits.maskOf(now.row, now.clue) == visits.goalOf(aim)) {
             return NONE;
         }
         int pair = pairTo(aim);
@@ -702,9 +705,10 @@ public final class DrawerNames {
     }
 
     private int pairTo(int aim) {
+        int goal = visits.goalOf(aim);
         all.prepareSwaps();
         for (int pair = 0; pair < all.pairs; pair++) {
-            if (visits.isAs(aim, all.bySwap(now.row, pair), now.clue)) {
+            if (visits.maskOf(all.bySwap(now.row, pair), now.clue) == goal) {
                 return pair;
             }
         }
@@ -978,44 +982,26 @@ public final class DrawerNames {
             int top = 0;
             for (int i = 0; i < steps.length; i++) {
                 int step = steps[i];
-                if (step >= 0) {
-                    top = push(top, step);
-                } else if (-step <= FACTS && -step <= facts.length) {
-                    top = push(top, facts[-step - 1]);
-                } else {
-                    top = apply(step, top);
+                if (step >= -FACTS) {
+                    if (top < stack.length && -step <= facts.length) {
+                        stack[top] = step >= 0 ? step : facts[-step - 1];
+                        top++;
+                    }
+                } else if (step == NOT) {
+                    if (top >= 1) {
+                        stack[top - 1] = 1 - stack[top - 1];
+                    }
+                } else if (step == CHOOSE) {
+                    if (top >= 3) {
+                        stack[top - 3] = stack[top - 3] != 0 ? stack[top - 2] : stack[top - 1];
+                        top -= 2;
+                    }
+                } else if (top >= 2) {
+                    stack[top - 2] = joined(step, stack[top - 2], stack[top - 1]);
+                    top--;
                 }
             }
             return stack[0];
-        }
-
-        private int push(int top, int v) {
-            if (top >= stack.length) {
-                return top;
-            }
-            stack[top] = v;
-            return top + 1;
-        }
-
-        private int apply(int step, int top) {
-            if (step == NOT) {
-                if (top >= 1) {
-                    stack[top - 1] = 1 - stack[top - 1];
-                }
-                return top;
-            }
-            if (step == CHOOSE) {
-                if (top < 3) {
-                    return top;
-                }
-                stack[top - 3] = stack[top - 3] != 0 ? stack[top - 2] : stack[top - 1];
-                return top - 2;
-            }
-            if (top < 2) {
-                return top;
-            }
-            stack[top - 2] = joined(step, stack[top - 2], stack[top - 1]);
-            return top - 1;
         }
 
         private static int joined(int step, int a, int b) {
@@ -1042,7 +1028,10 @@ public final class DrawerNames {
         }
 
         private static int kept(long v) {
-            return (int) Math.max(-MOST, Math.min(MOST, v));
+            if (v > MOST) {
+                return (int) MOST;
+            }
+            return v < -MOST ? (int) -MOST : (int) v;
         }
     }
 
@@ -1410,7 +1399,10 @@ public final class DrawerNames {
             }
             int sign = text[head] & 255;
             if (isLetter(sign)) {
-                readWord();
+                while (head < length && isLetter(text[head])) {
+                    head++;
+                }
+                token = wordBetween(start, head);
             } else if (isDigit(sign)) {
                 readNumber();
             } else if (SIGNS.indexOf((char) sign) >= 0) {
@@ -1441,13 +1433,6 @@ public final class DrawerNames {
             if (head - start > 3) {
                 fail(NO_TOKEN);
             }
-        }
-
-        private void readWord() {
-            while (head < length && isLetter(text[head])) {
-                head++;
-            }
-            token = wordBetween(start, head);
         }
 
         private int wordBetween(int from, int to) {
@@ -1728,8 +1713,9 @@ public final class DrawerNames {
             kept[clue] = true;
         }
 
-        private boolean isAs(int aim, int row, int clue) {
-            return maskOf(row, clue) == (aim == 0 ? (1 << all.drawers) - 1 : 0);
+        /** Who is let off, as bits, if it is as an aim tells. */
+        private int goalOf(int aim) {
+            return aim == 0 ? (1 << all.drawers) - 1 : 0;
         }
 
         private int maskOf(int row, int clue) {
@@ -1739,20 +1725,14 @@ public final class DrawerNames {
                 return 0;
             }
             if (masks[i] == 0) {
-                masks[i] = (byte) (1 + freePeople(row, clue));
+                int bits = 0;
+                for (int p = 0; p < all.drawers; p++) {
+                    go(p, row, clue);
+                    bits |= free ? 1 << p : 0;
+                }
+                masks[i] = (byte) (1 + bits);
             }
             return masks[i] - 1;
-        }
-
-        private int freePeople(int row, int clue) {
-            int bits = 0;
-            for (int p = 0; p < all.drawers; p++) {
-                go(p, row, clue);
-                if (free) {
-                    bits |= 1 << p;
-                }
-            }
-            return bits;
         }
 
         private void go(int p, int row, int clue) {
@@ -1788,17 +1768,11 @@ public final class DrawerNames {
                 return STOPS;
             }
             if (moves[i] == 0) {
-                moves[i] = (byte) toldMove(Math.max(1, n));
+                boolean stops = table.stops != null && table.stops.tell(facts) != 0;
+                int told = table.next == null ? facts[1] : table.next.tell(facts);
+                moves[i] = (byte) (stops ? STOPS : OPENS + Math.floorMod(told, Math.max(1, n)));
             }
             return moves[i];
-        }
-
-        private int toldMove(int n) {
-            if (table.stops != null && table.stops.tell(facts) != 0) {
-                return STOPS;
-            }
-            int told = table.next == null ? facts[1] : table.next.tell(facts);
-            return OPENS + Math.floorMod(told, n);
         }
     }
 
@@ -1822,9 +1796,10 @@ public final class DrawerNames {
                 queue = new int[all.count];
             }
             queued = 0;
+            int goal = visits.goalOf(aim);
             for (int row = 0; row < all.count; row++) {
                 steps[row] = NONE;
-                if (visits.isAs(aim, row, clue)) {
+                if (visits.maskOf(row, clue) == goal) {
                     reach(row, 0);
                 }
             }
