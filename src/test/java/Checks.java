@@ -2,15 +2,25 @@
 final class Checks {
     private static int wrong = 0;
     private static int asked = 0;
+    private static String about = "";
 
     private Checks() {
+    }
+
+    /** What stands ahead of each wrong answer from now on. */
+    static void about(String words) {
+        about = words;
+    }
+
+    static int asked() {
+        return asked;
     }
 
     static void due(String call, long got, long want) {
         asked++;
         if (got != want) {
             wrong++;
-            System.out.println(call + " answered " + got + ", due is " + want);
+            System.out.println(about + call + " answered " + got + ", due is " + want);
         }
     }
 
@@ -50,6 +60,31 @@ final class Checks {
         int lines = tell(x, text);
         holds("read: " + text, lines > 0);
         return x;
+    }
+
+    /** A text with a fault: its kind and place. */
+    static void faulty(String text, int kind, int place) {
+        DrawerNames x = new DrawerNames();
+        due("desk of " + text, tell(x, text), -30 - kind);
+        due("fault of " + text, x.fault(0), kind);
+        due("place in " + text, x.fault(1), place);
+    }
+
+    static void right(String text, int lines) {
+        due("desk of " + text, tell(new DrawerNames(), text), lines);
+    }
+
+    /** The number of a row: how many rows come ahead of it, drawer by drawer. */
+    static int rowNumber(int... names) {
+        int number = 0;
+        for (int d = 0; d < names.length; d++) {
+            int lesser = 0;
+            for (int e = d + 1; e < names.length; e++) {
+                lesser += names[e] < names[d] ? 1 : 0;
+            }
+            number = number * (names.length - d) + lesser;
+        }
+        return number;
     }
 
     static void fill(DrawerNames x, int tray, int sort, long... values) {

@@ -97,36 +97,25 @@ public final class DeskTest {
         Checks.due("fault of others", x.fault(-1), -1);
     }
 
-    private static void faulty(String text, int kind, int place) {
-        DrawerNames x = new DrawerNames();
-        Checks.due("desk of " + text, Checks.tell(x, text), -30 - kind);
-        Checks.due("fault of " + text, x.fault(0), kind);
-        Checks.due("place in " + text, x.fault(1), place);
-    }
-
-    private static void right(String text, int lines) {
-        Checks.due("desk of " + text, Checks.tell(new DrawerNames(), text), lines);
-    }
-
     private static void tokens() {
-        right("desk\ndrawers\n2  opens 1\n;\n ", 1);
-        right("desk drawers2opens1;clue5;", 2);
-        right("desk drawers 002 opens 001;clue 009;next:999+me-0*1;", 3);
-        right(TWO + "stops:[1=1]and not 2<1 or(3)>if 1=1 then 1 else 2 end;", 2);
-        faulty("deskdrawers 2 opens 1;", 2, 0);
-        faulty("desk drawers 2 opens 1;\tclue 1;", 1, 23);
-        faulty("Desk drawers 2 opens 1;", 1, 0);
-        faulty(TWO + "clue 0001;", 1, 28);
-        faulty(TWO + "clue 1\u00e9;", 1, 29);
-        faulty(TWO + "clue 1\u0000;", 1, 29);
-        faulty(TWO + "next : 1 / 2;", 1, 32);
-        faulty(TWO + "zz 1;", 2, 23);
-        faulty(TWO + "az 1;", 2, 23);
-        faulty(TWO + "`", 1, 23);
-        faulty(TWO + "{", 1, 23);
-        faulty(TWO + "clue /", 1, 28);
-        faulty(TWO + "nex : 1;", 2, 23);
-        faulty(TWO + "nexts : 1;", 2, 23);
+        Checks.right("desk\ndrawers\n2  opens 1\n;\n ", 1);
+        Checks.right("desk drawers2opens1;clue5;", 2);
+        Checks.right("desk drawers 002 opens 001;clue 009;next:999+me-0*1;", 3);
+        Checks.right(TWO + "stops:[1=1]and not 2<1 or(3)>if 1=1 then 1 else 2 end;", 2);
+        Checks.faulty("deskdrawers 2 opens 1;", 2, 0);
+        Checks.faulty("desk drawers 2 opens 1;\tclue 1;", 1, 23);
+        Checks.faulty("Desk drawers 2 opens 1;", 1, 0);
+        Checks.faulty(TWO + "clue 0001;", 1, 28);
+        Checks.faulty(TWO + "clue 1\u00e9;", 1, 29);
+        Checks.faulty(TWO + "clue 1\u0000;", 1, 29);
+        Checks.faulty(TWO + "next : 1 / 2;", 1, 32);
+        Checks.faulty(TWO + "zz 1;", 2, 23);
+        Checks.faulty(TWO + "az 1;", 2, 23);
+        Checks.faulty(TWO + "`", 1, 23);
+        Checks.faulty(TWO + "{", 1, 23);
+        Checks.faulty(TWO + "clue /", 1, 28);
+        Checks.faulty(TWO + "nex : 1;", 2, 23);
+        Checks.faulty(TWO + "nexts : 1;", 2, 23);
         cutTokens();
     }
 
@@ -150,57 +139,57 @@ public final class DeskTest {
     }
 
     private static void faultKinds() {
-        faulty("desk drawers 0 opens 1;", 3, 13);
-        faulty("desk drawers 7 opens 1;", 3, 13);
-        faulty("desk drawers 6 opens 10;", 3, 21);
-        right("desk drawers 6 opens 9;", 1);
-        faulty(TWO + ";", 2, 23);
-        right(TWO + "clue 0;clue 9;", 3);
+        Checks.faulty("desk drawers 0 opens 1;", 3, 13);
+        Checks.faulty("desk drawers 7 opens 1;", 3, 13);
+        Checks.faulty("desk drawers 6 opens 10;", 3, 21);
+        Checks.right("desk drawers 6 opens 9;", 1);
+        Checks.faulty(TWO + ";", 2, 23);
+        Checks.right(TWO + "clue 0;clue 9;", 3);
         for (String word : new String[] {"name", "night"}) {
             int first = 24 + word.length();
-            faulty(TWO + word + " 2 0;", 3, first);
-            faulty(TWO + word + " 0 2;", 3, first + 2);
-            faulty(TWO + word + " 999 ?", 3, first);
-            faulty(TWO + word + " 0 0 0;", 2, first + 4);
-            faulty(TWO + word + " 0 : 0;", 2, first + 2);
-            right(TWO + word + " 1 0;" + word + " 0 1;", 3);
+            Checks.faulty(TWO + word + " 2 0;", 3, first);
+            Checks.faulty(TWO + word + " 0 2;", 3, first + 2);
+            Checks.faulty(TWO + word + " 999 ?", 3, first);
+            Checks.faulty(TWO + word + " 0 0 0;", 2, first + 4);
+            Checks.faulty(TWO + word + " 0 : 0;", 2, first + 2);
+            Checks.right(TWO + word + " 1 0;" + word + " 0 1;", 3);
         }
-        faulty(TWO + "clue 10;", 3, 28);
-        faulty(TWO + "clue;", 2, 27);
-        faulty(TWO + "clue 1 2;", 2, 30);
-        faulty(TWO + "next 1;", 2, 28);
-        faulty(TWO + "next : 1 = 1;", 2, 32);
-        faulty(TWO + "stops : [1 = 1];x", 2, 39);
-        faulty(TWO + "stops : (1 = 1);", 2, 34);
-        faulty(TWO + "stops : [1] = 1;", 2, 33);
-        faulty(TWO + "stops : 1 = 1 = 1;", 2, 37);
-        faulty(TWO + "next : -1;", 2, 30);
-        faulty(TWO + "next : not 1;", 2, 30);
-        faulty(TWO + "next : if 1 = 1 then 2 end;", 2, 46);
-        faulty(TWO + "name 0 1; \n", 3, 34);
-        faulty(TWO + "night 1 0;", 3, 33);
-        faulty(TWO + "desk drawers 2 opens 1;", 2, 23);
+        Checks.faulty(TWO + "clue 10;", 3, 28);
+        Checks.faulty(TWO + "clue;", 2, 27);
+        Checks.faulty(TWO + "clue 1 2;", 2, 30);
+        Checks.faulty(TWO + "next 1;", 2, 28);
+        Checks.faulty(TWO + "next : 1 = 1;", 2, 32);
+        Checks.faulty(TWO + "stops : [1 = 1];x", 2, 39);
+        Checks.faulty(TWO + "stops : (1 = 1);", 2, 34);
+        Checks.faulty(TWO + "stops : [1] = 1;", 2, 33);
+        Checks.faulty(TWO + "stops : 1 = 1 = 1;", 2, 37);
+        Checks.faulty(TWO + "next : -1;", 2, 30);
+        Checks.faulty(TWO + "next : not 1;", 2, 30);
+        Checks.faulty(TWO + "next : if 1 = 1 then 2 end;", 2, 46);
+        Checks.faulty(TWO + "name 0 1; \n", 3, 34);
+        Checks.faulty(TWO + "night 1 0;", 3, 33);
+        Checks.faulty(TWO + "desk drawers 2 opens 1;", 2, 23);
     }
 
     private static void faultOrder() {
-        faulty(TWO + "clue 99;?", 3, 28);
-        faulty(TWO + "clue 12345 99;", 1, 28);
-        faulty(TWO + "next 12345;", 1, 28);
-        faulty(TWO + "clue next ?", 2, 28);
-        faulty(TWO + "name 0 1;?", 1, 32);
-        faulty(TWO + "name 0 1;clue", 2, 36);
-        faulty(TWO + "name 9 ?", 3, 28);
-        faulty(TWO + "next : ((((((1(", 2, 37);
-        faulty(TWO + "next : ((((((( ?", 4, 36);
+        Checks.faulty(TWO + "clue 99;?", 3, 28);
+        Checks.faulty(TWO + "clue 12345 99;", 1, 28);
+        Checks.faulty(TWO + "next 12345;", 1, 28);
+        Checks.faulty(TWO + "clue next ?", 2, 28);
+        Checks.faulty(TWO + "name 0 1;?", 1, 32);
+        Checks.faulty(TWO + "name 0 1;clue", 2, 36);
+        Checks.faulty(TWO + "name 9 ?", 3, 28);
+        Checks.faulty(TWO + "next : ((((((1(", 2, 37);
+        Checks.faulty(TWO + "next : ((((((( ?", 4, 36);
     }
 
     private static void depths() {
-        right(TWO + "next : ((((((1))))))+((((((2))))));", 2);
-        right(TWO + "stops : not not not not not not 1 = 1 and not not 1 = 1;", 2);
-        right(TWO + "next : if not [ not [ (1) = 1 ] ] then 1 else 2 end;", 2);
-        faulty(TWO + "next : if not [ not [ ((1)) = 1 ] ] then 1 else 2 end;", 4, 46);
-        faulty(TWO + "next : if 1=1 then (((((1))))) else ((((((1)))))) end;", 4, 64);
-        faulty(TWO + "stops : [[[[[[[1=1]]]]]]];", 4, 37);
+        Checks.right(TWO + "next : ((((((1))))))+((((((2))))));", 2);
+        Checks.right(TWO + "stops : not not not not not not 1 = 1 and not not 1 = 1;", 2);
+        Checks.right(TWO + "next : if not [ not [ (1) = 1 ] ] then 1 else 2 end;", 2);
+        Checks.faulty(TWO + "next : if not [ not [ ((1)) = 1 ] ] then 1 else 2 end;", 4, 46);
+        Checks.faulty(TWO + "next : if 1=1 then (((((1))))) else ((((((1)))))) end;", 4, 64);
+        Checks.faulty(TWO + "stops : [[[[[[[1=1]]]]]]];", 4, 37);
     }
 
     private static void drawer() {
