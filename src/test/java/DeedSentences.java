@@ -151,6 +151,8 @@ final class DeedSentences {
         Checks.due("no nights", x.nights(0), -3);
         Checks.due("no clue", x.clue(-1), -11);
         Checks.due("nothing did some", x.count(5), 0);
+        Checks.due("a year of one night", x.year(0, 1), 1);
+        Checks.due("it did", x.undo(1), 0);
         Checks.due("the same clue is told again", x.clue(5), 5);
         Checks.due("it did", x.count(5), 1);
 

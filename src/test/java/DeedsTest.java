@@ -168,14 +168,14 @@ public final class DeedsTest {
         Checks.due("no times", x.year(1, 0), -3);
         Checks.due("too many times", x.year(1, 41), -3);
         for (int s = -40; s < 40; s++) {
-            oneYear(x, s * 77777777, 1 + Math.floorMod(s, 40));
+            oneYear(s * 77777777, 1 + Math.floorMod(s, 40));
         }
     }
 
     /** A year call by call on the one desk, at once on another. */
-    private static void oneYear(DrawerNames x, int from, int times) {
+    private static void oneYear(int from, int times) {
+        DrawerNames x = Checks.at(DESK);
         DrawerNames y = Checks.at(DESK);
-        Checks.tell(x, DESK);
         seed = from;
         int could = 0;
         for (int i = 0; i < times; i++) {

@@ -66,6 +66,10 @@ final class FoundSentences {
             found(x, p, 0, p, p);
         }
         Checks.due("no call to undo", x.count(5), 0);
+        found(new DrawerNames(), 0, 1, 0);
+        found(new DrawerNames(), 0, 1, -1);
+        found(Checks.at("desk drawers 6 opens 2;"), 5, 24, 0, 5);
+        found(Checks.at("desk drawers 6 opens 2;"), 5, 720, -1);
 
         Sentence.promise(31, "-2: the TRAY, the one;");
         for (int tray : NO_TRAYS) {
@@ -171,6 +175,13 @@ final class FoundSentences {
         look(x, 3, 1, 2, -1);
         look(x, 3, 2, 2, 1);
         look(x, 3, 0, 2, 1, 0);
+        DrawerNames six = Checks.at("desk drawers 6 opens 6;next:5-tries;");
+        look(six, 0, 2, -1, -1, -1, -1, -1);
+        look(six, 0, 0, -1);
+        look(six, 0, 0, 5);
+        six = Checks.at("desk drawers 6 opens 6;next:tries;");
+        look(six, 5, 1, 0);
+        look(six, 5, 4, 0, 1, 2, 3);
         Checks.due("one drawer", oneLook(), 0);
 
         Sentence.promise(33, "NONE: there are none;");

@@ -51,7 +51,7 @@ public final class RoomTest {
     private static void desks() {
         long before = used();
         DrawerNames x = new DrawerNames();
-        for (int i = 0; i < 70; i++) {
+        for (int i = 0; i < 55; i++) {
             Checks.tell(x, SIX);
             x.ofAll(0);
             x.image(i % 2);

@@ -329,6 +329,11 @@ final class RowSentences {
         }
         Checks.due("none", Checks.at("desk drawers 6 opens 6;").ofAll(1), 0);
         Checks.due("each", Checks.at("desk drawers 6 opens 6;").ofAll(0), 720);
+        DrawerNames x = Checks.at("desk drawers 4 opens 1;stops:not clue=9;");
+        Checks.due("nobody by clue 0", x.ofAll(1), 24);
+        x.clue(9);
+        Checks.due("all by clue 9", x.ofAll(0), 1);
+        Checks.due("nobody by clue 9", x.ofAll(1), 9);
 
         Sentence.promise(24, "-2.");
         for (int aim : NO_AIMS) {
@@ -347,6 +352,12 @@ final class RowSentences {
         DrawerNames x = Checks.at("desk drawers 3 opens 1;stops:me=1;");
         Checks.due("never", x.ofOne(1), 0);
         Checks.due("two of six", x.ofOne(2), 2);
+        DrawerNames y = Checks.at("desk drawers 3 opens 3;stops:clue=1;");
+        Checks.due("each by clue 0", y.ofOne(0), 6);
+        y.clue(1);
+        Checks.due("never by clue 1", y.ofOne(0), 0);
+        y.clue(2);
+        Checks.due("each by clue 2", y.ofOne(0), 6);
 
         Sentence.promise(25, "-2.");
         for (int p : new int[] {-1, 3, 4, Integer.MIN_VALUE, Integer.MAX_VALUE}) {

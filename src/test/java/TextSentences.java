@@ -83,6 +83,12 @@ final class TextSentences {
         Checks.due("it stays by night", x.drawer(0, 1), 0);
         Checks.due("it is opened", x.opened(0, 0), 0);
         Checks.due("it is let off", x.visit(0, 0), 1);
+        Checks.tell(x, TWO + "clue 7;name 0 1;name 1 0;night 0 1;night 1 0;next:1;stops:1=1;");
+        Checks.tell(x, TWO);
+        Checks.due("a text without a clue", x.count(2), 0);
+        Checks.due("without names", x.lies(0), 0);
+        Checks.due("without nights", x.drawer(0, 1), 0);
+        Checks.due("without laws", x.letOff(), 3);
     }
 
     private static void header() {
@@ -268,6 +274,13 @@ final class TextSentences {
         truth("2=1", false);
         truth("2<1", false);
         truth("2>1", true);
+        truth("not 1<2", false);
+        truth("not 2>1", false);
+        truth("not 2<1", true);
+        truth("not 1>2", true);
+        truth("1<2 and 1=1", true);
+        truth("2>1 and 1=1", true);
+        truth("1<2 and 2>1", true);
         truth("0-2<0-1", true);
         truth("1+1=2*1", true);
         truth("(2)*3=6", true);
@@ -302,6 +315,17 @@ final class TextSentences {
         Checks.right(TWO + "next:((((((1))))));stops:[[[[[[1=1]]]]]];", 3);
         tells("((((((4))))))", 4);
         truth("not not not not not not 1=1", true);
+        truth("not not not not not not 1=1 and not not not not not not 1=1", true);
+        truth("not not not not not not 1=1 and not not not not not 1=1", false);
+        String choice = "if 1=1 then 1 else 2 end";
+        tells(choice + "+" + choice + "+" + choice + "+" + choice + "+" + choice + "+" + choice + "+" + choice, 7);
+        truth("[1=1] and [1=1] and [1=1] and [1=1] and [1=1] and [1=1] and [1=1] and [1=1]", true);
+        tells("(1)+(1)+(1)+(1)+(1)+(1)+(1)+(1)", 8);
+        DrawerNames x = new DrawerNames();
+        Checks.tell(x, TWO + "next:(((((((1");
+        Checks.due("behind a text with a seventh", Checks.tell(x, TWO + "next:((((((1))))));"), 2);
+        Checks.tell(x, TWO + "next:((((((1?");
+        Checks.due("behind a text that broke off within", Checks.tell(x, TWO + "next:((((((1))))));"), 2);
     }
 
     private static void howManyDrawers() {
@@ -418,6 +442,9 @@ final class TextSentences {
         Checks.feed(x, TWO + "clue 12;");
         Checks.due("it goes on to the n-th byte only", x.desk(29), -32);
         Checks.due("at the end", x.fault(1), 29);
+        Checks.feed(x, TWO + "next:mean;");
+        Checks.due("a word, too", x.desk(30), -32);
+        Checks.due("at the end", x.fault(1), 30);
     }
 
     private static void blanks() {

@@ -80,6 +80,13 @@ final class VisitSentences {
         Checks.due("no bytes", x.desk(0), -32);
         Checks.due("empty then, too", x.count(6), 0);
 
+        asNewOnes("desk drawers 3 opens 2;clue 8;name 0 1;name 1 0;next:found+1;stops:tries=1;", "desk drawers 6 opens 3;night 0 5;night 5 0;",
+                "desk drawers 2 opens 1;next:found+clue;", "desk drawers 4 opens 9;next:tries*3;stops:me=1;");
+        asNewOnes("desk drawers 1 opens 1;", "desk drawers 5 opens 2;next:me+clue*tries;clue 3;", "desk drawers 5 opens 2;clue 1;",
+                "desk drawers 4 opens 2;next:found+clue;name 0 3;name 3 0;");
+        asNewOnes("desk drawers 6 opens 9;next:1;", "desk drawers 5 opens 9;next:2;", "desk drawers 6 opens 2;next:found+clue;",
+                "desk drawers 3 opens 2;next:last+clue;");
+
         Sentence.promise(3, "NIGHTS are 0");
         x = Checks.at("desk drawers 2 opens 1;");
         x.nights(99);
@@ -102,6 +109,38 @@ final class VisitSentences {
         Checks.due("kind 2", Checks.tell(new DrawerNames(), "desk"), -32);
         Checks.due("kind 3", Checks.tell(new DrawerNames(), "desk drawers 7"), -33);
         Checks.due("kind 4", Checks.tell(new DrawerNames(), TWO + "next:((((((("), -34);
+    }
+
+    /** One object is told desk behind desk, and answers as a new one that was told the last alone. */
+    private static void asNewOnes(String... texts) {
+        DrawerNames x = new DrawerNames();
+        for (String text : texts) {
+            DrawerNames y = new DrawerNames();
+            Checks.due("lines of " + text, Checks.tell(x, text), Checks.tell(y, text));
+            Checks.due("clue of " + text, x.count(2), y.count(2));
+            for (int clue : new int[] {x.count(2), 9, 2}) {
+                x.clue(clue);
+                y.clue(clue);
+                asAnother(text + " by clue " + clue, x, y);
+            }
+        }
+    }
+
+    private static void asAnother(String words, DrawerNames x, DrawerNames y) {
+        Checks.due("row of " + words, x.lies(0), y.lies(0));
+        Checks.due("letOff of " + words, x.letOff(), y.letOff());
+        for (int what = 0; what < 5; what++) {
+            Checks.due("count " + what + " of " + words, x.count(what), y.count(what));
+            Checks.due("just " + what + " of " + words, x.just(what), y.just(what));
+        }
+        Checks.due("night of " + words, x.at(1), y.at(1));
+        for (int aim = 0; aim < 2; aim++) {
+            Checks.due("fewest of " + words, x.fewest(aim), y.fewest(aim));
+            Checks.due("way of " + words, x.way(aim, 0), y.way(aim, 0));
+            Checks.due("rows of " + words, x.rows(aim, 3), y.rows(aim, 3));
+            Checks.due("best of " + words, x.best(aim), y.best(aim));
+            Checks.due("chance of " + words, x.chance(aim, 3, 0), y.chance(aim, 3, 0));
+        }
     }
 
     private static void linesAndFaults() {
@@ -274,8 +313,65 @@ final class VisitSentences {
         Checks.due("found at first is no find", x.letOff(), 0);
     }
 
+    /** Of four drawers, five to be opened: the laws by all facts, and the same by hand. */
+    private static final String ALL_FACTS =
+            "next:me*2+found*3+last*5+tries*7+clue;stops:me+found+last+tries*2+clue=11;";
+
+    private static boolean isLetOff(int[] names, int p, int clue, StringBuilder opened) {
+        int found = p;
+        int last = p;
+        for (int tries = 0; tries < 5 && p + found + last + tries * 2 + clue != 11; tries++) {
+            last = (p * 2 + found * 3 + last * 5 + tries * 7 + clue) % 4;
+            found = names[last];
+            opened.append(last);
+            if (found == p) {
+                return true;
+            }
+        }
+        return false;
+    }
+
+    private static void bothLaws() {
+        Sentence.terms(2, "In both laws:");
+        int[][] letOff = new int[10][4];
+        for (int number = 0; number < 256; number++) {
+            int[] names = {number >> 6, number >> 4 & 3, number >> 2 & 3, number & 3};
+            if ((1 << names[0] | 1 << names[1] | 1 << names[2] | 1 << names[3]) == 15) {
+                visitsOf(names, letOff);
+            }
+        }
+        DrawerNames x = Checks.at("desk drawers 4 opens 5;" + ALL_FACTS);
+        for (int clue = 0; clue < 10; clue++) {
+            x.clue(clue);
+            x.letOff();
+            for (int p = 0; p < 4; p++) {
+                Checks.due("rows of " + p + " by clue " + clue, x.ofOne(p), letOff[clue][p]);
+            }
+        }
+    }
+
+    private static void visitsOf(int[] names, int[][] letOff) {
+        DrawerNames x = Checks.at("desk drawers 4 opens 5;name 0 " + names[0] + ";name 1 " + names[1] + ";name 2 " + names[2]
+                + ";name 3 " + names[3] + ";" + ALL_FACTS);
+        for (int clue = 0; clue < 10; clue++) {
+            x.clue(clue);
+            for (int p = 0; p < 4; p++) {
+                StringBuilder opened = new StringBuilder();
+                boolean free = isLetOff(names, p, clue, opened);
+                letOff[clue][p] += free ? 1 : 0;
+                Checks.due("let off " + p, x.visit(p, 0), free ? 1 : 0);
+                Checks.due("how many " + p, x.visit(p, 1), opened.length());
+                int most = opened.length();
+                Checks.due("the last of " + p, x.opened(p, most - 1 < 0 ? 0 : most - 1),
+                        most == 0 ? -1 : opened.charAt(most - 1) - '0');
+            }
+        }
+    }
+
     private static void factSentences() {
-        Sentence.terms(2, "In both laws: me: its number;");
+        bothLaws();
+
+        Sentence.terms(2, "me: its number;");
         DrawerNames x = Checks.at("desk drawers 6 opens 1;next:me*5;");
         for (int p = 0; p < 6; p++) {
             Checks.due("next of " + p, x.opened(p, 0), p * 5 % 6);
