@@ -204,6 +204,7 @@ final class DeedSentences {
 
     private static void swapSentences() {
         Sentence.promise(9, "To SWAP: how many are LET OFF then.");
+        Moved.alike(desk -> desk.swap(0, 1), desk -> desk.swap(3, 1));
         DrawerNames x = Checks.at(FOUR);
         Checks.due("two rounds of two", x.swap(0, 2), 4);
         Checks.due("a round of four", x.swap(2, 0), 0);
@@ -223,6 +224,7 @@ final class DeedSentences {
 
     private static void nightsSentences() {
         Sentence.promise(10, "n NIGHTS (1 to 99): how many are LET OFF then.");
+        Moved.alike(desk -> desk.nights(1), desk -> desk.nights(2));
         for (int n = 1; n <= 99; n++) {
             DrawerNames x = Checks.at(FOUR);
             int[] rows = {9, Checks.rowNumber(3, 1, 2, 0), Checks.rowNumber(2, 3, 1, 0)};
@@ -289,6 +291,7 @@ final class DeedSentences {
         DrawerNames x = Checks.at(FOUR);
 
         Sentence.promise(13, "DEEDS, judged as if done");
+        Moved.alike(desk -> desk.judge(1, 2), desk -> desk.judge(1, 3));
         Checks.fill(x, 0, 1, 0, 19, 101);
         Checks.due("row", x.judge(0, 2), Checks.rowNumber(1, 3, 2, 0));
         row(x, 1, 2, 3, 0);
@@ -355,6 +358,7 @@ final class DeedSentences {
 
     private static void performSentences() {
         Sentence.promise(14, "They are done, till one can't be: how many.");
+        Moved.alike(desk -> desk.perform(1) * 100 + desk.lies(0));
         DrawerNames x = Checks.at(FOUR);
         Checks.fill(x, 0, 1, 0, 19, 132, 100, 0);
         Checks.due("three", x.perform(0), 3);
@@ -475,6 +479,7 @@ final class DeedSentences {
 
     private static void yearSentences() {
         Sentence.promise(15, "A YEAR: how many could be.");
+        Moved.alike(desk -> desk.year(7, 9) * 100 + desk.lies(0));
         DrawerNames x = six();
         Checks.due("all", x.year(0, 4), 4);
         Checks.due("all but one", x.year(3, 3), 2);

@@ -58,6 +58,7 @@ final class FoundSentences {
 
     private static void foundSentences() {
         Sentence.promise(31, "FOUND by one: how many ROWS.");
+        Moved.alike(desk -> desk.found(3, 0), desk -> desk.found(3, 2));
         DrawerNames x = Checks.at(FOUR);
         for (int p = 0; p < 4; p++) {
             found(x, p, 24, -1);
@@ -123,6 +124,7 @@ final class FoundSentences {
 
     private static void namesSentences() {
         Sentence.promise(32, "Whose name can lie in a DRAWER by these, as bits (0: there are none).");
+        Moved.alike(desk -> desk.names(3, 0, 1), desk -> desk.names(3, 1, 2), desk -> desk.names(3, 3, 0));
         DrawerNames x = Checks.at(FOUR);
         Checks.fill(x, 0, 1, 1, -1, 0);
         int[] bits = {2, 12, 5, 9};
@@ -162,6 +164,7 @@ final class FoundSentences {
     private static void lookSentences() {
         Sentence.promise(33, "The DRAWER to look at next: the greatest number of these ROWS in which the same name lies there is least,"
                 + " the first.");
+        Moved.alike(desk -> desk.look(3, 0), desk -> desk.look(3, 1), desk -> desk.look(3, 3));
         DrawerNames x = Checks.at(FOUR);
         look(x, 0, 1, 1);
         look(x, 0, 0, -1);
@@ -182,6 +185,8 @@ final class FoundSentences {
         six = Checks.at("desk drawers 6 opens 6;next:tries;");
         look(six, 5, 1, 0);
         look(six, 5, 4, 0, 1, 2, 3);
+        look(Checks.at("desk drawers 6 opens 2;next:tries;"), 5, 2, 0, 1);
+        look(Checks.at("desk drawers 6 opens 1;next:0;"), 5, 1, 0);
         Checks.due("one drawer", oneLook(), 0);
 
         Sentence.promise(33, "NONE: there are none;");
@@ -235,6 +240,7 @@ final class FoundSentences {
 
     private static void cluesSentences() {
         Sentence.promise(34, "LET OFF: CLUES, as bits.");
+        Moved.alike(desk -> desk.clues(2));
         for (int clue = 0; clue <= 9; clue++) {
             DrawerNames x = Checks.at("desk drawers 3 opens 1;stops:not clue=" + clue + ";");
             clues(x, 1 << clue, 7);

@@ -51,6 +51,13 @@ final class RowSentences {
         Checks.due("the last of those with 0 first", lying(1, 0, 5, 4, 3, 2, 1).lies(0), 119);
         Checks.due("the first of those with 1 first", lying(1, 1, 0, 2, 3, 4, 5).lies(0), 120);
         Checks.due("the last of six", lying(1, 5, 4, 3, 2, 1, 0).lies(0), 719);
+        for (int n = 1; n <= 5; n++) {
+            int number = 0;
+            for (int[] names : AllRows.of(n)) {
+                Checks.due("one of " + n, lying(1, names).lies(0), number);
+                number++;
+            }
+        }
 
         Sentence.terms(3, "A ROUND: DRAWERS of which each one's name is the number of the next one.");
         DrawerNames x = lying(1, 2, 0, 4, 3, 1, 5);
@@ -71,6 +78,8 @@ final class RowSentences {
 
     private static void liesSentences() {
         Sentence.promise(16, "How names lie, what 0: the ROW's number");
+        Moved.alike(desk -> desk.lies(0), desk -> desk.lies(1), desk -> desk.lies(2), desk -> desk.lies(3), desk -> desk.lies(4),
+                desk -> desk.lies(5));
         DrawerNames x = Checks.at(SIX);
         Checks.due("1 2 0 4 3 5", x.lies(0), 146);
         x.swap(0, 5);
@@ -114,6 +123,7 @@ final class RowSentences {
 
     private static void roundSentences() {
         Sentence.promise(17, "The ROUND of a DRAWER, what 0: how many DRAWERS, 1: which, as bits.");
+        Moved.alike(desk -> desk.round(0, 0), desk -> desk.round(1, 1), desk -> desk.round(3, 1));
         DrawerNames x = Checks.at(SIX);
         int[] lengths = {3, 3, 3, 2, 2, 1};
         int[] bits = {7, 7, 7, 24, 24, 32};
@@ -138,6 +148,7 @@ final class RowSentences {
 
     private static void powerSentences() {
         Sentence.promise(18, "The number of the POWER k (0 to 1,000,000,000,000,000).");
+        Moved.alike(desk -> desk.power(1), desk -> desk.power(2), desk -> desk.power(3));
         DrawerNames x = Checks.at(SIX);
         int[] powers = {0, 146, 240, 2, 144, Checks.rowNumber(2, 0, 1, 4, 3, 5)};
         for (int k = 0; k < 30; k++) {
@@ -155,6 +166,7 @@ final class RowSentences {
 
     private static void rootsSentences() {
         Sentence.promise(19, "Of how many ROWS this one is the POWER k (1 to 9).");
+        Moved.alike(desk -> desk.roots(2), desk -> desk.roots(3), desk -> desk.roots(4));
         DrawerNames x = Checks.at("desk drawers 4 opens 1;");
         int[] roots = {1, 10, 9, 16, 1, 18, 1, 16, 9};
         for (int k = 1; k <= 9; k++) {
@@ -234,10 +246,45 @@ final class RowSentences {
         for (int i = 0; i < 3; i++) {
             Checks.due("of five at home " + i, five.way(1, i), way[i]);
         }
+        for (int[] names : AllRows.of(5)) {
+            for (int opens = 1; opens < 5; opens++) {
+                goesBy(lying(opens, names), 0, opens, names);
+            }
+            goesBy(lying(1, names), 1, 1, names);
+        }
+    }
+
+    private static int swapsTo(int aim, int opens, int[] names) {
+        return aim == 0 ? AllRows.swapsToAll(names, opens) : AllRows.swapsToNobody(names);
+    }
+
+    /** The way goes by the first swap that comes nearer, again and again. */
+    private static void goesBy(DrawerNames x, int aim, int opens, int[] names) {
+        int[] row = names;
+        int swaps = swapsTo(aim, opens, names);
+        Checks.due("fewest of row " + Checks.rowNumber(names), x.fewest(aim), swaps);
+        for (int i = 0; i < swaps; i++) {
+            int[] pair = firstPair(row, aim, opens);
+            Checks.due("way " + i + " of row " + Checks.rowNumber(names), x.way(aim, i), 10 * pair[0] + pair[1]);
+            row = AllRows.swapped(row, pair[0], pair[1]);
+        }
+        Checks.due("no more of row " + Checks.rowNumber(names), x.way(aim, swaps), -1);
+    }
+
+    private static int[] firstPair(int[] row, int aim, int opens) {
+        for (int d = 0; d < row.length; d++) {
+            for (int e = d + 1; e < row.length; e++) {
+                if (swapsTo(aim, opens, AllRows.swapped(row, d, e)) < swapsTo(aim, opens, row)) {
+                    return new int[] {d, e};
+                }
+            }
+        }
+        throw new IllegalStateException("no swap comes nearer");
     }
 
     private static void fewestSentences() {
         Sentence.promise(21, "SWAPPING to an AIM (0 to 1): how many.");
+        Moved.alike(desk -> desk.fewest(0), desk -> desk.fewest(1));
         int[][] names = {{0, 1, 2, 3, 4, 5}, {1, 0, 2, 3, 4, 5}, {1, 2, 0, 3, 4, 5}, {1, 2, 3, 0, 4, 5}, {1, 2, 3, 4, 0, 5},
             {1, 2, 3, 4, 5, 0}};
         for (int swaps = 0; swaps < 6; swaps++) {
@@ -265,6 +312,7 @@ final class RowSentences {
         DrawerNames x = lying(1, 1, 2, 3, 4, 5, 0);
 
         Sentence.promise(22, "Its i-th SWAP.");
+        Moved.alike(desk -> desk.way(0, 0), desk -> desk.way(1, 0), desk -> desk.way(0, 1), desk -> desk.way(1, 1));
         int[] way = {1, 2, 3, 4, 5};
         for (int i = 0; i < 5; i++) {
             Checks.due("way " + i, x.way(0, i), way[i]);
@@ -290,11 +338,17 @@ final class RowSentences {
     private static void rowsSentences() {
         Sentence.promise(23, "How many rows of just n SWAPS (0 to 7), one behind the other, there are behind which it is as an AIM"
                 + " tells.");
+        Moved.alike(desk -> desk.rows(0, 1), desk -> desk.rows(1, 2), desk -> desk.rows(0, 3), desk -> desk.rows(1, 0));
         DrawerNames x = lying(1, 0, 1, 2);
         long[] home = {1, 0, 3, 0, 27, 0, 243, 0};
         for (int n = 0; n <= 7; n++) {
             Checks.due("home by " + n, x.rows(0, n), home[n]);
             Checks.due("nobody by " + n, x.rows(1, n), n == 0 ? 0 : 2 * home[n]);
+        }
+        DrawerNames swapped = lying(1, 1, 0, 2);
+        for (int n = 0; n < 7; n++) {
+            Checks.due("home from 1 0 2 by " + n, swapped.rows(0, n), home[n + 1] / 3);
+            Checks.due("nobody from 1 0 2 by " + n, swapped.rows(1, n), 2 * home[n + 1] / 3);
         }
         DrawerNames any = Checks.at("desk drawers 6 opens 6;");
         long all = 1;
@@ -321,6 +375,7 @@ final class RowSentences {
 
     private static void ofAllSentences() {
         Sentence.promise(24, "Of how many ROWS (all there can be) it is as an AIM tells.");
+        Moved.alike(desk -> desk.ofAll(0), desk -> desk.ofAll(1));
         long[] byThree = {1, 2, 6, 18, 66, 276};
         long[] nobodyByOne = {0, 1, 2, 9, 44, 265};
         for (int n = 1; n <= 6; n++) {
@@ -343,6 +398,7 @@ final class RowSentences {
 
     private static void ofOneSentences() {
         Sentence.promise(25, "Of how many ROWS one of the PEOPLE is LET OFF.");
+        Moved.alike(desk -> desk.ofOne(0), desk -> desk.ofOne(1), desk -> desk.ofOne(2), desk -> desk.ofOne(3));
         for (int opens = 1; opens <= 9; opens++) {
             DrawerNames x = Checks.at("desk drawers 6 opens " + opens + ";");
             for (int p = 0; p < 6; p++) {
@@ -367,6 +423,7 @@ final class RowSentences {
 
     private static void justSentences() {
         Sentence.promise(26, "Of how many ROWS just n PEOPLE are LET OFF (n 0 and more).");
+        Moved.alike(desk -> desk.just(0), desk -> desk.just(1), desk -> desk.just(2), desk -> desk.just(3));
         DrawerNames x = Checks.at("desk drawers 4 opens 1;");
         int[] homes = {9, 8, 6, 0, 1, 0, 0, 0};
         for (int n = 0; n < homes.length; n++) {
@@ -391,6 +448,7 @@ final class RowSentences {
         x.undo(1);
 
         Sentence.promise(27, "The ROW's number behind n NIGHTS GOING (0 to 1,000,000,000,000,000).");
+        Moved.alike(desk -> desk.at(0), desk -> desk.at(1), desk -> desk.at(2));
         int[] rows = {0, 242, 144, 2, 240, Checks.rowNumber(1, 2, 0, 4, 3, 5)};
         for (int n = 0; n < 30; n++) {
             Checks.due("at " + n, x.at(n), rows[n % 6]);
@@ -407,6 +465,7 @@ final class RowSentences {
 
     private static void comesRound() {
         Sentence.promise(28, "GOING: behind how many NIGHTS all lies as it does now, 1 at least.");
+        Moved.alike(desk -> desk.comesRound());
         Checks.due("nothing moves", Checks.at(SIX).comesRound(), 1);
         Checks.due("one drawer", new DrawerNames().comesRound(), 1);
         Checks.due("two", Checks.at("desk drawers 6 opens 1;night 0 5;night 5 0;").comesRound(), 2);
@@ -420,6 +479,7 @@ final class RowSentences {
 
     private static void firstSentences() {
         Sentence.promise(29, "GOING, behind how many NIGHTS (0 too) it is as an AIM tells first.");
+        Moved.alike(desk -> desk.first(0), desk -> desk.first(1));
         DrawerNames x = Checks.at(SIX_BY_NIGHT);
         Checks.due("now", x.first(0), 0);
         for (int n = 1; n <= 6; n++) {
@@ -442,6 +502,7 @@ final class RowSentences {
 
     private static void oftenSentences() {
         Sentence.promise(30, "Behind how many of n NIGHTS GOING (each of 1 to n, 0 to 1,000,000,000,000,000) it is as an AIM tells.");
+        Moved.alike(desk -> desk.often(0, 1), desk -> desk.often(1, 2), desk -> desk.often(0, 5), desk -> desk.often(1, 9));
         DrawerNames x = Checks.at(SIX_BY_NIGHT);
         for (int n = 0; n < 30; n++) {
             Checks.due("not counting now, of " + n, x.often(0, n), n / 6);

@@ -321,6 +321,9 @@ final class TextSentences {
         tells(choice + "+" + choice + "+" + choice + "+" + choice + "+" + choice + "+" + choice + "+" + choice, 7);
         truth("[1=1] and [1=1] and [1=1] and [1=1] and [1=1] and [1=1] and [1=1] and [1=1]", true);
         tells("(1)+(1)+(1)+(1)+(1)+(1)+(1)+(1)", 8);
+        tells(choice + "+(1+(1+(1+(1+(1+(1+3))))))", 10);
+        tells("(1+(1+(1+(1+(1+(1+4))))))-" + choice, 9);
+        tells("1+2*(1+2*(1+2*(1+2*" + choice + ")))", 31);
         DrawerNames x = new DrawerNames();
         Checks.tell(x, TWO + "next:(((((((1");
         Checks.due("behind a text with a seventh", Checks.tell(x, TWO + "next:((((((1))))));"), 2);

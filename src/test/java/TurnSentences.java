@@ -39,6 +39,7 @@ final class TurnSentences {
 
     private static void forcesSentences() {
         Sentence.promise(35, "FORCING an AIM: within how many SWAPS, at fewest (0: it is so).");
+        Moved.alike(desk -> desk.forces(0), desk -> desk.forces(1));
         DrawerNames x = Checks.at("desk drawers 4 opens 1;");
         Checks.due("it is so", x.forces(0), 0);
         x.swap(0, 1);
@@ -61,6 +62,7 @@ final class TurnSentences {
 
     private static void bestSentences() {
         Sentence.promise(36, "The first SWAP by which it does within as few (100: it lets it be, behind all others).");
+        Moved.alike(desk -> desk.best(0), desk -> desk.best(1));
         DrawerNames x = Checks.at("desk drawers 4 opens 2;name 0 1;name 1 2;name 2 3;name 3 0;");
         Checks.due("of 2 and 13", x.best(0), 2);
         x.swap(0, 2);
@@ -142,6 +144,7 @@ final class TurnSentences {
     private static void chanceSentences() {
         Sentence.promise(37, "CHANCE that it is as an AIM tells behind n lots (0 to 7), what 0: the number above, 1: below, in lowest"
                 + " terms.");
+        Moved.alike(desk -> desk.chance(0, 1, 0), desk -> desk.chance(1, 2, 0), desk -> desk.chance(0, 2, 1));
         DrawerNames x = Checks.at("desk drawers 2 opens 1;");
         int[] all = {1, 9, 41, 189, 881, 4149, 19721, 94509};
         int[] nobody = {0, 1, 9, 61, 369, 2101, 11529, 61741};
@@ -170,6 +173,7 @@ final class TurnSentences {
 
     private static void meanSentences() {
         Sentence.promise(38, "How many are LET OFF on the mean behind n lots (0 to 7), what 0: above, 1: below, in lowest terms.");
+        Moved.alike(desk -> desk.mean(0, 0), desk -> desk.mean(1, 0), desk -> desk.mean(2, 1));
         DrawerNames x = Checks.at("desk drawers 2 opens 1;");
         int[] above = {2, 9, 41, 189, 881, 4149, 19721, 94509};
         int[] below = {1, 5, 25, 125, 625, 3125, 15625, 78125};

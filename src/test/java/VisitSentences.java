@@ -86,6 +86,8 @@ final class VisitSentences {
                 "desk drawers 4 opens 2;next:found+clue;name 0 3;name 3 0;");
         asNewOnes("desk drawers 6 opens 9;next:1;", "desk drawers 5 opens 9;next:2;", "desk drawers 6 opens 2;next:found+clue;",
                 "desk drawers 3 opens 2;next:last+clue;");
+        asNewOnes("desk drawers 4 opens 1;", "desk drawers 5 opens 1;next:found+clue;", "desk drawers 6 opens 1;next:found+clue;",
+                "desk drawers 6 opens 9;next:found+clue;stops:tries=8;");
 
         Sentence.promise(3, "NIGHTS are 0");
         x = Checks.at("desk drawers 2 opens 1;");
@@ -418,10 +420,14 @@ final class VisitSentences {
         Checks.due("next by 4 again", x.opened(0, 0), 4);
     }
 
-    /** What a sum tells, by the drawer of six that it opens. */
+    /** What a sum tells, by the drawer of six that it opens, and as itself. */
     private static void tells(String sum, int value) {
         DrawerNames x = Checks.at("desk drawers 6 opens 1;next:" + sum + ";");
         Checks.due(sum, x.opened(0, 0), Math.floorMod(value, 6));
+        int thousands = Math.abs(value) / 1000;
+        String size = "(999+1)*(" + thousands / 2 + "+" + (thousands - thousands / 2) + ")+" + Math.abs(value) % 1000;
+        x = Checks.at("desk drawers 6 opens 1;stops:" + sum + "=" + (value < 0 ? "0-(" + size + ")" : size) + ";");
+        Checks.due(sum + " itself", x.visit(0, 1), 0);
     }
 
     private static void keptSums() {
@@ -456,6 +462,7 @@ final class VisitSentences {
 
     private static void visitSentences() {
         Sentence.promise(6, "A VISIT of one now, what 0: 1 if it is LET OFF, else 0, 1: how many it opens.");
+        Moved.alike(desk -> desk.visit(0, 0), desk -> desk.visit(1, 0), desk -> desk.visit(2, 1), desk -> desk.visit(3, 1));
         DrawerNames x = Checks.at("desk drawers 3 opens 2;name 0 1;name 1 2;name 2 0;");
         for (int p = 0; p < 3; p++) {
             Checks.due("not let off " + p, x.visit(p, 0), 0);
@@ -484,6 +491,7 @@ final class VisitSentences {
         DrawerNames x = Checks.at("desk drawers 3 opens 2;name 0 1;name 1 2;name 2 0;");
 
         Sentence.promise(7, "The i-th DRAWER it opens.");
+        Moved.alike(desk -> desk.opened(0, 0), desk -> desk.opened(1, 1), desk -> desk.opened(2, 1), desk -> desk.opened(3, 2));
         Checks.due("0", x.opened(2, 0), 2);
         Checks.due("1", x.opened(2, 1), 0);
 
@@ -514,6 +522,7 @@ final class VisitSentences {
 
     private static void letOff() {
         Sentence.promise(8, "Who is LET OFF now, as bits.");
+        Moved.alike(desk -> desk.letOff());
         DrawerNames x = Checks.at("desk drawers 6 opens 2;name 0 1;name 1 2;name 2 0;name 3 4;name 4 3;");
         Checks.due("3, 4, 5", x.letOff(), 8 + 16 + 32);
         x.swap(0, 1);
