@@ -626,12 +626,19 @@ public final class DrawerNames {
         for (int row = 0; row < all.count; row++) {
             if (fits(told, p, row)) {
                 howMany++;
-                for (int d = 0; d < table.drawers; d++) {
-                    lying[d * MOST_DRAWERS + all.nameIn(row, d)]++;
-                }
+                countLying(row);
             }
         }
         return howMany;
+    }
+
+    private void countLying(int row) {
+        for (int d = 0; d < table.drawers; d++) {
+            int i = d * MOST_DRAWERS + all.nameIn(row, d);
+            if (i >= 0 && i < lying.length) {
+                lying[i]++;
+            }
+        }
     }
 
     private boolean fits(Tray told, int p, int row) {
@@ -1539,7 +1546,10 @@ public final class DrawerNames {
         /** Each name goes into the drawer that the other row tells for the one where it lies. */
         private int movedRow(int row, int goes) {
             for (int d = 0; d < drawers; d++) {
-                made[nameIn(goes, d)] = nameIn(row, d);
+                int to = nameIn(goes, d);
+                if (to >= 0 && to < made.length) {
+                    made[to] = nameIn(row, d);
+                }
             }
             return numberOf(made, drawers);
         }
@@ -1870,8 +1880,9 @@ public final class DrawerNames {
         private void bySwaps() {
             Arrays.fill(later, 0L);
             for (int row = 0; row < all.count; row++) {
-                for (int pair = 0; pair < all.pairs && weightAt(row) != 0; pair++) {
-                    addLater(all.bySwap(row, pair), weightAt(row));
+                long weight = weightAt(row);
+                for (int pair = 0; pair < all.pairs && weight != 0; pair++) {
+                    addLater(all.bySwap(row, pair), weight);
                 }
             }
             goOn();
